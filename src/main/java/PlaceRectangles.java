@@ -378,6 +378,8 @@ public final class PlaceRectangles {
         private final int[] coordinates = new int[BOXES * AXES];
         /** All that follows has the depth in THE ORDER as its index. */
         final int[] turnAt = new int[BOXES];
+        private final int[] turnExtents = new int[BOXES * AXES];
+        private final int[] turnCoordinates = new int[BOXES * AXES];
         final int[] begins = new int[BOXES * AXES];
         private final int[] ends = new int[BOXES * AXES];
         private final int[] layersLeft = new int[BOXES];
@@ -494,11 +496,9 @@ public final class PlaceRectangles {
             if (rowsLeft[depth] == 0 && !nextLayer()) {
                 return false;
             }
-            int box = order[depth];
-            int turn = turnAt[depth];
             setAxis(1, lowest(rowsLeft[depth]));
             rowsLeft[depth] &= rowsLeft[depth] - 1;
-            waysLeft[depth] = wayCoordinates(box, turn, 0);
+            waysLeft[depth] = turnCoordinates[depth * AXES];
             freeLeft[depth] = waysLeft[depth] & ~blockedInRow();
             return true;
         }
@@ -509,7 +509,7 @@ public final class PlaceRectangles {
             }
             setAxis(2, lowest(layersLeft[depth]));
             layersLeft[depth] &= layersLeft[depth] - 1;
-            rowsLeft[depth] = wayCoordinates(order[depth], turnAt[depth], 1);
+            rowsLeft[depth] = turnCoordinates[depth * AXES + 1];
             return true;
         }
 
@@ -517,28 +517,36 @@ public final class PlaceRectangles {
             int box = order[depth];
             for (int turn = turnAt[depth] + 1; turn < TURNS; turn++) {
                 if (stock.counts(box, turn)) {
-                    turnAt[depth] = turn;
-                    layersLeft[depth] = wayCoordinates(box, turn, 2);
+                    turnTo(box, turn);
                     return true;
                 }
             }
             return false;
         }
 
+        private void turnTo(int box, int turn) {
+            turnAt[depth] = turn;
+            for (int axis = 0; axis < AXES; axis++) {
+                turnExtents[depth * AXES + axis] = stock.extent(box, turn, axis);
+                turnCoordinates[depth * AXES + axis] = wayCoordinates(box, turn, axis);
+            }
+            layersLeft[depth] = turnCoordinates[depth * AXES + 2];
+        }
+
         private void setAxis(int axis, int from) {
-            begins[depth * AXES + axis] = from;
-            ends[depth * AXES + axis] = from + stock.extent(order[depth], turnAt[depth], axis);
+            int at = depth * AXES + axis;
+            begins[at] = from;
+            ends[at] = from + turnExtents[at];
         }
 
         /** Where on axis 0 the box would overlap one of those ahead of it. */
         private int blockedInRow() {
             int own = depth * AXES;
-            int extent = stock.extent(order[depth], turnAt[depth], 0);
             int blocked = 0;
             for (int at = 0; at < own; at += AXES) {
                 if (begins[at + 1] < ends[own + 1] && begins[own + 1] < ends[at + 1]
                         && begins[at + 2] < ends[own + 2] && begins[own + 2] < ends[at + 2]) {
-                    int first = Math.max(0, begins[at] - extent + 1);
+                    int first = Math.max(0, begins[at] - turnExtents[own] + 1);
                     blocked |= (1 << ends[at]) - (1 << first);
                 }
             }
@@ -790,6 +798,8 @@ public final class PlaceRectangles {
         /** Of each such turn the product on axes 0 and 1, for the functions that are chosen. */
         private final int[] areas = new int[BOXES * TURNS];
         private int binArea;
+        /** Of each axis the functions that THE PROOF may have, as bits. */
+        private final int[] tried = new int[AXES];
         private boolean prepared;
         private boolean sought;
 
@@ -905,18 +915,63 @@ public final class PlaceRectangles {
             }
             sought = true;
             prepare();
+            for (int axis = 0; axis < AXES; axis++) {
+                leaveOutIdle(axis);
+            }
             for (int n0 = 0; n0 <= lastFunction(0); n0++) {
-                for (int n1 = 0; n1 <= lastFunction(1); n1++) {
-                    choose(n0, n1);
-                    for (int n2 = 0; n2 <= lastFunction(2); n2++) {
-                        if (proves(stock.allBoxes(), n2)) {
-                            keep(n0, n1, n2, reason(n2));
-                            return;
-                        }
+                for (int n1 = 0; isTried(0, n0) && n1 <= lastFunction(1); n1++) {
+                    if (isTried(1, n1) && seekOnLastAxis(n0, n1)) {
+                        return;
                     }
                 }
             }
             keep(NONE, NONE, NONE, NONE);
+        }
+
+        private boolean seekOnLastAxis(int n0, int n1) {
+            choose(n0, n1);
+            for (int n2 = 0; n2 <= lastFunction(2); n2++) {
+                if (isTried(2, n2) && proves(stock.allBoxes(), n2)) {
+                    keep(n0, n1, n2, reason(n2));
+                    return true;
+                }
+            }
+            return false;
+        }
+
+        private boolean isTried(int axis, int n) {
+            return (tried[axis] >> n & 1) == 1;
+        }
+
+        /**
+         * A function is idle if one ahead of it gives each extent at least as much of what it gives
+         * the length: what the idle one proves, that one proves too, and THE PROOF is the first.
+         */
+        private void leaveOutIdle(int axis) {
+            tried[axis] = 0;
+            for (int n = 0; n <= lastFunction(axis); n++) {
+                boolean idle = false;
+                for (int ahead = 0; ahead < n && !idle; ahead++) {
+                    idle = isTried(axis, ahead) && givesNoLess(axis, ahead, n);
+                }
+                if (!idle) {
+                    tried[axis] |= 1 << n;
+                }
+            }
+        }
+
+        private boolean givesNoLess(int axis, int ahead, int n) {
+            int rowAhead = (axis * WIDTH + ahead) * WIDTH;
+            int row = (axis * WIDTH + n) * WIDTH;
+            int length = stock.lengths[axis];
+            for (int turn = 0; turn < firstTurn[stock.count]; turn++) {
+                int extent = extents[turn * AXES + axis];
+                if (values[rowAhead + extent] * values[row + length]
+                        < values[row + extent] * values[rowAhead + length]) {
+                    return false;
+                }
+            }
+            return true;
         }
 
         private void keep(int n0, int n1, int n2, int boxes) {

@@ -1,13 +1,15 @@
 /** Long mixed runs of calls: the class must answer each as the plain model of the document does. */
 final class AgainstPlainModelTest {
-    private static final int RUNS = 400;
-    private static final int CALLS = 512;
+    private static final int RUNS = 3000;
+    /** The document promises 512 calls an object; one question here may be 57 of them. */
+    private static final int CALLS = 512 - 57;
 
     private final Check check = new Check();
     private long seed = 20261116;
     private PlaceRectangles real;
     private PlainModel plain;
     private int longest;
+    private int sort;
     private int[] lengths;
     private int count;
 
@@ -27,7 +29,7 @@ final class AgainstPlainModelTest {
 
     /** Mostly an ordinary number, now and then one beside the range or far away. */
     private int odd(int from, int to) {
-        int kind = pick(0, 39);
+        int kind = pick(0, 99);
         if (kind == 0) {
             return from - 1;
         }
@@ -43,12 +45,15 @@ final class AgainstPlainModelTest {
     private void oneRun(int run) {
         real = new PlaceRectangles();
         plain = new PlainModel();
-        longest = run % 8 == 0 ? 20 : pick(1, 6);
+        longest = run % 10 == 0 ? 20 : pick(1, 9);
+        sort = pick(0, 3);
         lengths = new int[] {10, 10, 10};
         count = 0;
-        for (int call = 0; call < CALLS; call++) {
-            String at = "run " + run + ", call " + call + ": ";
-            if (call < 12 ? call % 12 < 9 : pick(0, 19) == 0) {
+        newBin("run " + run + ", first: ");
+        int before = check.asked();
+        for (int round = 0; check.asked() - before <= CALLS && round < CALLS; round++) {
+            String at = "run " + run + ", round " + round + ": ";
+            if (round < 9 || pick(0, 24) == 0) {
                 change(at);
             } else {
                 ask(at);
@@ -58,14 +63,11 @@ final class AgainstPlainModelTest {
 
     private void change(String at) {
         int kind = pick(0, 9);
-        if (kind <= 1) {
-            int x = odd(1, longest), y = odd(1, longest), z = odd(1, longest);
-            int got = real.bin(x, y, z);
-            check.due(at + "bin(" + x + ", " + y + ", " + z + ")", got, plain.bin(x, y, z));
-            lengths = got == 0 ? new int[] {x, y, z} : lengths;
-        } else if (kind <= 5) {
-            int most = Math.max(1, pick(0, 3) == 0 ? longest : longest / 2 + 1);
-            int a = odd(1, most), b = odd(1, most), c = odd(1, most);
+        if (kind == 0) {
+            newBin(at);
+        } else if (kind <= 6) {
+            int a = odd(1, 1), b = someSide(), c = someSide();
+            a = a == 1 ? someSide() : a;
             int got = real.box(a, b, c);
             check.due(at + "box(" + a + ", " + b + ", " + c + ")", got, plain.box(a, b, c));
             count = got >= 0 ? got + 1 : count;
@@ -76,6 +78,25 @@ final class AgainstPlainModelTest {
             check.due(at + "clear()", real.clear(), plain.clear());
             count = 0;
         }
+    }
+
+    private void newBin(String at) {
+        int x = odd(1 + longest / 2, longest), y = odd(1 + longest / 2, longest), z = odd(1, longest);
+        int got = real.bin(x, y, z);
+        check.due(at + "bin(" + x + ", " + y + ", " + z + ")", got, plain.bin(x, y, z));
+        lengths = got == 0 ? new int[] {x, y, z} : lengths;
+    }
+
+    /** Small boxes have plans, those of about a half have proofs by functions beyond the first. */
+    private int someSide() {
+        int half = lengths[pick(0, 2)] / 2;
+        if (sort == 0) {
+            return pick(1, Math.max(1, half));
+        }
+        if (sort == 1) {
+            return pick(Math.max(1, half), half + 1);
+        }
+        return sort == 2 && pick(0, 4) > 0 ? pick(1, 2) : pick(1, longest);
     }
 
     private int someBox() {
@@ -121,10 +142,10 @@ final class AgainstPlainModelTest {
     }
 
     private void askPlace(String at, boolean lay) {
-        int box = someBox(), turn = pick(0, 1) == 0 ? 0 : odd(0, 5);
-        int x = odd(0, pick(0, lengths[0]));
-        int y = odd(0, pick(0, lengths[1]));
-        int z = odd(0, pick(0, lengths[2]));
+        int box = someBox(), turn = pick(0, 2) > 0 ? 0 : odd(0, 5);
+        int x = odd(0, pick(0, lengths[0] - 1));
+        int y = odd(0, pick(0, lengths[1] - 1));
+        int z = odd(0, pick(0, lengths[2] - 1));
         String words = "(" + box + ", " + turn + ", " + x + ", " + y + ", " + z + ")";
         if (lay) {
             check.due(at + "lay" + words, real.lay(box, turn, x, y, z), plain.lay(box, turn, x, y, z));

@@ -15,6 +15,10 @@ final class Check {
         due(what, holds ? 1 : 0, 1);
     }
 
+    int asked() {
+        return asked;
+    }
+
     int wrong() {
         return wrong;
     }
