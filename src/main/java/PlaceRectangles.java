@@ -493,7 +493,13 @@ public final class PlaceRectangles {
         }
 
         private boolean nextRow() {
-            if (rowsLeft[depth] == 0 && !nextLayer()) {
+            if (rowsLeft[depth] == 0 && layersLeft[depth] == 0) {
+                nextTurn();
+            }
+            if (rowsLeft[depth] == 0 && layersLeft[depth] != 0) {
+                nextLayer();
+            }
+            if (rowsLeft[depth] == 0) {
                 return false;
             }
             setAxis(1, lowest(rowsLeft[depth]));
@@ -503,25 +509,20 @@ public final class PlaceRectangles {
             return true;
         }
 
-        private boolean nextLayer() {
-            if (layersLeft[depth] == 0 && !nextTurn()) {
-                return false;
-            }
+        private void nextLayer() {
             setAxis(2, lowest(layersLeft[depth]));
             layersLeft[depth] &= layersLeft[depth] - 1;
             rowsLeft[depth] = turnCoordinates[depth * AXES + 1];
-            return true;
         }
 
-        private boolean nextTurn() {
+        private void nextTurn() {
             int box = order[depth];
             for (int turn = turnAt[depth] + 1; turn < TURNS; turn++) {
                 if (stock.counts(box, turn)) {
                     turnTo(box, turn);
-                    return true;
+                    return;
                 }
             }
-            return false;
         }
 
         private void turnTo(int box, int turn) {

@@ -1,6 +1,7 @@
 /** Long mixed runs of calls: the class must answer each as the plain model of the document does. */
 final class AgainstPlainModelTest {
     private static final int RUNS = 3000;
+    private static final int PROOFS = 4000;
     /** The document promises 512 calls an object; one question here may be 57 of them. */
     private static final int CALLS = 512 - 57;
 
@@ -18,7 +19,41 @@ final class AgainstPlainModelTest {
         for (int run = 0; run < RUNS && test.check.wrong() < 20; run++) {
             test.oneRun(run);
         }
+        int byOthers = 0;
+        for (int run = 0; run < PROOFS && test.check.wrong() < 20; run++) {
+            byOthers += test.oneProof(run) ? 1 : 0;
+        }
+        test.check.isTrue("many proofs are by functions beyond the first", byOthers > PROOFS / 20);
         test.check.end();
+    }
+
+    /** Boxes a little longer than a part of the bin, whose volume fits; whether a proof was found. */
+    private boolean oneProof(int run) {
+        real = new PlaceRectangles();
+        plain = new PlainModel();
+        int[] bin = {pick(1, 12), pick(1, 12), pick(1, 12)};
+        real.bin(bin[0], bin[1], bin[2]);
+        plain.bin(bin[0], bin[1], bin[2]);
+        int boxes = pick(2, 8), bits = pick(0, 1) == 0 ? 1 : pick(1, 63);
+        int left = bin[0] * bin[1] * bin[2];
+        for (int box = 0; box < boxes; box++) {
+            int a = partOf(bin[0]), b = partOf(bin[1]), c = partOf(bin[2]);
+            if (a * b * c <= left) {
+                left -= a * b * c;
+                int number = real.box(a, b, c);
+                plain.box(a, b, c);
+                real.turns(number, bits);
+                plain.turns(number, bits);
+            }
+        }
+        for (int what = 0; what < 4; what++) {
+            check.due("proof run " + run + ": proof(" + what + ")", real.proof(what), plain.proof(what));
+        }
+        return real.proof(0) + real.proof(1) + real.proof(2) > 0;
+    }
+
+    private int partOf(int length) {
+        return Math.max(1, Math.min(length, length / pick(1, 4) + pick(0, 1)));
     }
 
     /** The same numbers every time, so that a failure can be seen again. */

@@ -15,6 +15,7 @@ final class DualTest {
         promise20Refusals();
         promise21();
         promise21FirstOnEachAxis();
+        promise21AllTurnsOfAllBoxes();
         promise21Reason();
         promise21Refusals();
         CHECK.end();
@@ -214,6 +215,27 @@ final class DualTest {
             x.box(axis == 0 ? extent : 1, axis == 1 ? extent : 1, axis == 2 ? extent : 1);
         }
         return x;
+    }
+
+    private static void promise21AllTurnsOfAllBoxes() {
+        PlaceRectangles x = new PlaceRectangles();
+        x.bin(20, 20, 20);
+        for (int box = 0; box < 8; box++) {
+            x.box(18, 1 + box, 9 + box);
+            x.turns(box, 63);
+        }
+        long volumes = 0;
+        for (int box = 0; box < 8; box++) {
+            volumes += 18L * (1 + box) * (9 + box);
+        }
+        due("20 of 48 turns", x.need(0, 0, 0, 0), volumes);
+        due("21 their volumes are above", x.proof(3) > 0 ? 1 : 0, volumes > 8000 ? 1 : 0);
+        x.clear();
+        for (int box = 0; box < 8; box++) {
+            x.box(1, 2, 3 + box);
+            x.turns(box, 63);
+        }
+        proofIs(x, NONE, NONE, NONE, NONE);
     }
 
     private static void promise21Reason() {

@@ -12,6 +12,7 @@ final class TreeTest {
         pinwheel();
         pinwheelInside();
         eightInARow();
+        nestedSlabs();
         changesWithWhatIsLaid();
         refusals();
         CHECK.end();
@@ -140,6 +141,29 @@ final class TreeTest {
             leafIs(x, 2 * k + 1, 7 - k);
         }
         leafIs(x, 14, 0);
+    }
+
+    /** Each cut takes one slab off the end, on axes 0 and 1 in turns, so that all first trees nest. */
+    private static void nestedSlabs() {
+        PlaceRectangles x = new PlaceRectangles();
+        int wide = 10, deep = 10;
+        int[] places = new int[7];
+        for (int k = 0; k < 7; k++) {
+            boolean across = k % 2 == 0;
+            x.box(across ? 1 : wide, across ? deep : 1, 1);
+            places[k] = across ? --wide : --deep;
+        }
+        x.box(wide, deep, 1);
+        for (int k = 0; k < 7; k++) {
+            x.lay(k, 0, k % 2 == 0 ? places[k] : 0, k % 2 == 0 ? 0 : places[k], 0);
+        }
+        due("17 no overlap", x.lay(7, 0, 0, 0, 0), 0);
+        due("17 eight", x.tree(), 15);
+        for (int k = 0; k < 7; k++) {
+            nodeIs(x, k, k % 2, places[k], k + 1, 14 - k);
+            leafIs(x, 14 - k, k);
+        }
+        leafIs(x, 7, 7);
     }
 
     private static void changesWithWhatIsLaid() {
