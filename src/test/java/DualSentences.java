@@ -448,6 +448,10 @@ final class DualSentences {
         PlaceRectangles y = Given.bin(3, 3, 3, Given.of(2, 2, 2), Given.of(2, 2, 2));
         s.due("no plan", y.run(20000), 2);
         proofIs(s, y, NONE, NONE, NONE, NONE);
+        y.box(3, 3, 3);
+        proofIs(s, y, 0, 0, 0, 6);
+        y.clear();
+        proofIs(s, y, NONE, NONE, NONE, NONE);
     }
 
     private static void promise21Bad(Sentences s) {

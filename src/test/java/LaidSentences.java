@@ -377,6 +377,12 @@ final class LaidSentences {
         s.due("two below: 2 * 2 and 2 * 2", x.support(1), 8);
         x.lay(3, 0, 4, 4, 0);
         s.due("two of them at one place: each by itself", x.support(1), 12);
+        x.lay(2, 0, 2, 3, 0);
+        x.lay(3, 0, 2, 3, 0);
+        x.lay(4, 0, 2, 3, 0);
+        s.due("three of them below all of it, and 2 * 2", x.support(1), 40);
+        x.lift(4);
+        x.lay(2, 0, 0, 2, 0);
         x.lay(3, 0, 2, 3, 1);
         s.due("one that ends above", x.support(1), 8);
         x.lay(3, 0, 2, 3, 2);

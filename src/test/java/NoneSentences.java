@@ -49,9 +49,14 @@ final class NoneSentences {
         s.due("at a place that is no way of it", z.none(1, 0, 3, 0, 0), 0);
         s.due("in the midst of 5", Given.bin(5, 1, 1, Given.of(3, 1, 1), Given.of(1, 1, 1)).none(1, 0, 2, 0, 0), 1);
         z.lay(1, 0, 0, 0, 0);
-        s.due("what is laid does not matter", z.none(0, 0, 0, 0, 0), 0);
+        s.due("where another one is laid", z.none(0, 0, 0, 0, 0), 0);
         s.due("it lays nothing", z.place(0, 0), Given.NONE);
         s.due("and lifts nothing", z.place(1, 0), 0);
+        for (int at = 0; at <= 2; at += 2) {
+            x.lay(1, 0, at, 0, 0);
+            s.due("in the midst, the other one being laid at " + at, x.none(0, 0, 1, 1, 1), 1);
+            s.due("aside, the other one being laid at " + at, x.none(0, 0, 3, 1, 1), 0);
+        }
     }
 
     private static void withoutAnyPlace(Sentences s) {

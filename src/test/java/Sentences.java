@@ -1,3 +1,5 @@
+import java.util.function.Consumer;
+
 /**
  * Answers that are due by one sentence of the document at a time. Each sentence is quoted, so that a
  * failure tells which one does not hold, and so that it can be seen which ones have no test.
@@ -35,6 +37,16 @@ final class Sentences {
 
     void isTrue(String what, boolean holds) {
         check.isTrue(now + ": " + what, holds);
+    }
+
+    /** A part of the tests; where the class throws, the rest of the part is left out. */
+    void part(Consumer<Sentences> tests) {
+        try {
+            tests.accept(this);
+        } catch (RuntimeException thrown) {
+            thrown.printStackTrace();
+            check.isTrue(now + ": threw " + thrown, false);
+        }
     }
 
     void allAreQuoted(String heading) {

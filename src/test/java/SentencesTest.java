@@ -10,13 +10,13 @@ final class SentencesTest {
 
     public static void main(String[] args) throws IOException {
         Sentences s = new Sentences(new Document(Path.of("../shared/DOC.md")));
-        BoxSentences.all(s);
-        SearchSentences.all(s);
-        LaidSentences.all(s);
-        TreeSentences.all(s);
-        DualSentences.all(s);
-        NoneSentences.all(s);
-        RefusalSentences.all(s);
+        s.part(BoxSentences::all);
+        s.part(SearchSentences::all);
+        s.part(LaidSentences::all);
+        s.part(TreeSentences::all);
+        s.part(DualSentences::all);
+        s.part(NoneSentences::all);
+        s.part(RefusalSentences::all);
         s.allAreQuoted("Terms");
         for (int promise = 1; promise <= PROMISES; promise++) {
             s.allAreQuoted("Promise " + promise);
