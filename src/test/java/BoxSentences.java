@@ -95,7 +95,8 @@ final class BoxSentences {
 
     private static void sides(Sentences s) {
         s.sentence("Terms", "BOXES 0 .. 7 have three sides (1 .. 20)");
-        int[][] good = {{1, 1, 1}, {20, 20, 20}, {1, 20, 20}, {20, 1, 20}, {20, 20, 1}, {1, 1, 20}, {1, 20, 1}, {20, 1, 1}};
+        int[][] good = {{1, 1, 1}, {20, 20, 20}, {1, 20, 20}, {20, 1, 20}, {20, 20, 1}, {1, 1, 20}, {1, 20, 1},
+                {20, 1, 1}};
         PlaceRectangles x = Given.bin(20, 20, 20);
         for (int box = 0; box <= 7; box++) {
             s.due("box " + box, x.box(good[box][0], good[box][1], good[box][2]), box);
@@ -206,7 +207,8 @@ final class BoxSentences {
             s.due("a sum that wraps around, y = " + n, x.lay(0, 0, 0, n, 0), BAD);
             s.due("a sum that wraps around, z = " + n, x.lay(0, 0, 0, 0, n), BAD);
         }
-        PlaceRectangles y = Given.bin(2, 3, 4, Given.of(2, 3, 4), Given.of(3, 3, 4), Given.of(2, 4, 4), Given.of(2, 3, 5));
+        PlaceRectangles y = Given.bin(2, 3, 4, Given.of(2, 3, 4), Given.of(3, 3, 4), Given.of(2, 4, 4),
+                Given.of(2, 3, 5));
         s.due("as large as the bin", y.lay(0, 0, 0, 0, 0), 0);
         for (int box = 1; box <= 3; box++) {
             s.due("one longer than the bin on axis " + (box - 1), y.lay(box, 0, 0, 0, 0), BAD);
@@ -227,7 +229,8 @@ final class BoxSentences {
     }
 
     private static void overlap(Sentences s) {
-        s.sentence("Terms", "Two boxes with places OVERLAP if on each axis each of them begins before the other one ends.");
+        s.sentence("Terms",
+                "Two boxes with places OVERLAP if on each axis each of them begins before the other one ends.");
         PlaceRectangles x = Given.bin(7, 7, 7, Given.of(2, 1, 3), Given.of(1, 2, 2));
         x.lay(0, 0, 2, 3, 2);
         for (int a = 0; a <= 6; a++) {

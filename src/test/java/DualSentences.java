@@ -235,7 +235,8 @@ final class DualSentences {
     }
 
     private static void theProof(Sentences s) {
-        s.sentence("Terms", "THE PROOF are the first three, by the number on axis 0, then 1, then 2, whose NEED is above HAS.");
+        s.sentence("Terms",
+                "THE PROOF are the first three, by the number on axis 0, then 1, then 2, whose NEED is above HAS.");
         for (int axis = 0; axis < 3; axis++) {
             int a = axis == 0 ? 1 : 0, b = axis == 1 ? 1 : 0, c = axis == 2 ? 1 : 0;
             // Four rows of 5 and five boxes of 4: 20 is not above 20, but function 2 makes 4 a 5.
@@ -289,7 +290,8 @@ final class DualSentences {
     /** The proof is so, and no three ahead of it have a NEED above HAS. */
     private static void firstOfAllIs(Sentences s, int n0, int n1, int n2, int boxes, PlaceRectangles x) {
         proofIs(s, x, n0, n1, n2, boxes);
-        int[] functions = {Given.length(x, 0) / 2 * 2 + 1, Given.length(x, 1) / 2 * 2 + 1, Given.length(x, 2) / 2 * 2 + 1};
+        int[] functions = {Given.length(x, 0) / 2 * 2 + 1, Given.length(x, 1) / 2 * 2 + 1,
+                Given.length(x, 2) / 2 * 2 + 1};
         int last = (n0 * functions[1] + n1) * functions[2] + n2;
         for (int k = 0; k <= last; k++) {
             int a = k / functions[2] / functions[1], b = k / functions[2] % functions[1], c = k % functions[2];
@@ -301,10 +303,12 @@ final class DualSentences {
     private static void reason(Sentences s) {
         s.sentence("Terms", "ITS REASON: of all boxes, one by one by numbers, each goes without which"
                 + " (and those gone before) NEED is above HAS yet; those that are left.");
-        PlaceRectangles x = Given.bin(4, 1, 1, Given.of(1, 1, 1), Given.of(2, 1, 1), Given.of(3, 1, 1), Given.of(4, 1, 1));
+        PlaceRectangles x = Given.bin(4, 1, 1, Given.of(1, 1, 1), Given.of(2, 1, 1), Given.of(3, 1, 1),
+                Given.of(4, 1, 1));
         // 10 of 4: without 0 it is 9, without 1 then 7, without 2 then 4, which is not above; without 3 then 3.
         proofIs(s, x, 0, 0, 0, 4 + 8);
-        PlaceRectangles y = Given.bin(4, 1, 1, Given.of(4, 1, 1), Given.of(3, 1, 1), Given.of(2, 1, 1), Given.of(1, 1, 1));
+        PlaceRectangles y = Given.bin(4, 1, 1, Given.of(4, 1, 1), Given.of(3, 1, 1), Given.of(2, 1, 1),
+                Given.of(1, 1, 1));
         // Without 0 it is 6, without 1 then 3, which is not above; without 2 then 4; without 3 then 5.
         proofIs(s, y, 0, 0, 0, 2 + 4);
         PlaceRectangles z = Given.bin(2, 2, 2, Given.times(8, 2, 1, 1));
@@ -323,7 +327,8 @@ final class DualSentences {
 
     private static void reasonOfOne(Sentences s) {
         s.sentence("Terms", "those that are left.");
-        PlaceRectangles x = Given.bin(4, 4, 4, Given.of(5, 1, 1), Given.of(1, 1, 1), Given.of(5, 1, 1), Given.of(4, 4, 4));
+        PlaceRectangles x = Given.bin(4, 4, 4, Given.of(5, 1, 1), Given.of(1, 1, 1), Given.of(5, 1, 1),
+                Given.of(4, 4, 4));
         // Boxes 0 and 2 lie nowhere: the last one of these is left alone.
         proofIs(s, x, 0, 0, 0, 4);
         x.turns(2, 63);
@@ -415,7 +420,8 @@ final class DualSentences {
     }
 
     private static void promise21(Sentences s) {
-        s.sentence("Promise 21", "THE PROOF: what = 0 .. 2 the number on that axis, 3 its REASON (a bit for each box);");
+        s.sentence("Promise 21",
+                "THE PROOF: what = 0 .. 2 the number on that axis, 3 its REASON (a bit for each box);");
         PlaceRectangles x = Given.bin(1, 1, 1, Given.times(8, 1, 1, 1));
         proofIs(s, x, 0, 0, 0, 64 + 128);
         // Two rows of 5 on axis 2, each with a box of 4; function 2 proves that a third one is too many.

@@ -333,7 +333,8 @@ final class LaidSentences {
     }
 
     private static void promise15Ground(Sentences s) {
-        s.sentence("Promise 15", "The area of a laid box that is held from below: all of it at coordinate 0 of axis 2;");
+        s.sentence("Promise 15",
+                "The area of a laid box that is held from below: all of it at coordinate 0 of axis 2;");
         PlaceRectangles x = Given.bin(20, 20, 20, Given.of(20, 20, 20), Given.of(4, 3, 2), Given.of(1, 1, 1));
         x.turns(1, 63);
         x.lay(0, 0, 0, 0, 0);
@@ -423,7 +424,8 @@ final class LaidSentences {
     }
 
     private static void promise16(Sentences s) {
-        s.sentence("Promise 16", "The centre of the laid boxes' weights on an axis (weights in the middles of the boxes)");
+        s.sentence("Promise 16",
+                "The centre of the laid boxes' weights on an axis (weights in the middles of the boxes)");
         PlaceRectangles x = Given.bin(20, 20, 20, Given.of(4, 3, 20), Given.of(1, 1, 1), Given.of(2, 2, 2));
         x.lay(0, 0, 0, 0, 0);
         centreIs(s, x, 0, 2, 1);

@@ -79,7 +79,8 @@ final class RefusalSentences {
 
     /** Four boxes that go into the bin of 4, 4, 2, after so much WORK; two of them are laid, apart. */
     private static PlaceRectangles begun(int work) {
-        PlaceRectangles x = Given.bin(4, 4, 2, Given.of(2, 3, 1), Given.of(3, 2, 1), Given.of(1, 2, 2), Given.of(2, 2, 1));
+        PlaceRectangles x = Given.bin(4, 4, 2, Given.of(2, 3, 1), Given.of(3, 2, 1), Given.of(1, 2, 2),
+                Given.of(2, 2, 1));
         x.turns(1, 5);
         x.turns(2, 63);
         x.weight(3, 7);

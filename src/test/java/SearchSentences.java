@@ -50,7 +50,8 @@ final class SearchSentences {
         orderIs(s, Given.bin(1, 1, 1, Given.of(1, 1, 1)), 0);
         orderIs(s, Given.bin(1, 1, 1, Given.of(1, 1, 1), Given.of(1, 1, 2)), 1, 0);
         orderIs(s, Given.bin(1, 1, 1, Given.of(1, 1, 2), Given.of(1, 1, 1)), 0, 1);
-        orderIs(s, Given.bin(9, 9, 9, Given.of(1, 1, 12), Given.of(2, 3, 2), Given.of(12, 1, 1), Given.of(3, 4, 1)), 0, 1, 2, 3);
+        orderIs(s, Given.bin(9, 9, 9, Given.of(1, 1, 12), Given.of(2, 3, 2), Given.of(12, 1, 1), Given.of(3, 4, 1)),
+                0, 1, 2, 3);
         orderIs(s, Given.bin(9, 9, 9, Given.times(8, 20, 20, 20)), 0, 1, 2, 3, 4, 5, 6, 7);
         orderIs(s, Given.bin(9, 9, 9, Given.of(1, 1, 20), Given.of(3, 3, 3), Given.of(5, 2, 2), Given.of(20, 20, 20),
                 Given.of(2, 2, 2), Given.of(3, 3, 3), Given.of(1, 1, 1), Given.of(20, 20, 19)), 3, 7, 1, 5, 0, 2, 4, 6);
@@ -210,12 +211,12 @@ final class SearchSentences {
         placeIs(s, y, 2, 5, 0, 0);
     }
 
-    /** Box 1 and box 2 are as long as the bin, so that box 0 never goes in: 16 ways are looked at. */
+    /** Boxes 1 and 2 fill the bin, so that box 0 never goes in: CLOSED by 16 ways. */
     private static PlaceRectangles fiveIntoFour() {
         return Given.bin(4, 1, 1, Given.of(1, 1, 1), Given.of(2, 1, 1), Given.of(2, 1, 1));
     }
 
-    /** Box 0 has to go on to its second turn: 8 ways are looked at. */
+    /** Box 0 has to go on to its second turn: THE PLAN by 8 ways. */
     private static PlaceRectangles turned() {
         PlaceRectangles x = Given.bin(3, 4, 1, Given.of(2, 3, 1), Given.of(2, 3, 1));
         x.turns(0, 5);
@@ -533,7 +534,8 @@ final class SearchSentences {
     }
 
     private static void promise8Coordinates(Sentences s) {
-        s.sentence("Promise 8", "3 how many coordinates box k has on axis 0, 4 on 1, 5 on 2 (also such as are in no way).");
+        s.sentence("Promise 8",
+                "3 how many coordinates box k has on axis 0, 4 on 1, 5 on 2 (also such as are in no way).");
         PlaceRectangles x = Given.bin(5, 4, 3, Given.of(1, 1, 1), Given.of(4, 3, 2), Given.of(5, 1, 1));
         // 0, 4, 5; 0, 1, 3, 4; 0, 1, 2, 3: the last of each leaves no place.
         coordinatesAre(s, x, 0, 3, 4, 4);

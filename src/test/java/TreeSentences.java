@@ -42,7 +42,8 @@ final class TreeSentences {
 
     private static void noneOverlap(Sentences s) {
         s.sentence("Terms", "A TREE of the laid boxes, if none of them overlap:");
-        PlaceRectangles x = Given.laid(Given.of(2, 2, 2, 0, 0, 0), Given.of(2, 2, 2, 2, 0, 0), Given.of(1, 1, 1, 9, 9, 9));
+        PlaceRectangles x = Given.laid(Given.of(2, 2, 2, 0, 0, 0), Given.of(2, 2, 2, 2, 0, 0),
+                Given.of(1, 1, 1, 9, 9, 9));
         s.due("they touch: tree()", x.tree(), 5);
         x.lay(1, 0, 1, 0, 0);
         s.due("two of three overlap: tree()", x.tree(), STATE);
@@ -73,7 +74,8 @@ final class TreeSentences {
             leafIs(s, x, 2, 0);
         }
         // On axis 0 it can be at 6, on axis 1 at 1: the axis is ahead of the place.
-        PlaceRectangles y = Given.laid(Given.of(6, 1, 1, 0, 0, 0), Given.of(6, 1, 1, 0, 1, 0), Given.of(1, 1, 1, 6, 0, 0));
+        PlaceRectangles y = Given.laid(Given.of(6, 1, 1, 0, 0, 0), Given.of(6, 1, 1, 0, 1, 0),
+                Given.of(1, 1, 1, 6, 0, 0));
         nodeIs(s, y, 0, 0, 6, 1, 4);
         nodeIs(s, y, 1, 1, 1, 2, 3);
     }
@@ -107,7 +109,8 @@ final class TreeSentences {
 
     private static void placeOfCut(Sentences s) {
         s.sentence("Terms", "each of these boxes ends there or before, or begins there or behind,");
-        PlaceRectangles x = Given.laid(Given.of(3, 1, 1, 0, 0, 0), Given.of(3, 1, 1, 3, 0, 0), Given.of(2, 1, 1, 2, 1, 0));
+        PlaceRectangles x = Given.laid(Given.of(3, 1, 1, 0, 0, 0), Given.of(3, 1, 1, 3, 0, 0),
+                Given.of(2, 1, 1, 2, 1, 0));
         // On axis 0 box 2 lies across 3: the cut can only be on axis 1.
         s.due("tree()", x.tree(), 5);
         nodeIs(s, x, 0, 1, 1, 1, 4);
@@ -149,7 +152,8 @@ final class TreeSentences {
     }
 
     private static void numbers(Sentences s) {
-        s.sentence("Terms", "Its NODES are numbered from 0 on: a cut, then all of its first tree, then all of its second one.");
+        s.sentence("Terms",
+                "Its NODES are numbered from 0 on: a cut, then all of its first tree, then all of its second one.");
         PlaceRectangles x = Given.laid(Given.of(5, 5, 5, 5, 0, 5), Given.of(5, 5, 5, 0, 5, 0),
                 Given.of(5, 5, 5, 5, 0, 0), Given.of(5, 5, 5, 0, 0, 0));
         s.due("tree()", x.tree(), 7);
@@ -176,7 +180,8 @@ final class TreeSentences {
         }
         leafIs(s, row, 14, 0);
         // Slabs off the end, on axes 0 and 1 in turns: each lies across all that were taken off before.
-        int[][] slabs = {{1, 9, 8, 0}, {8, 1, 0, 8}, {1, 8, 7, 0}, {7, 1, 0, 7}, {1, 7, 6, 0}, {6, 1, 0, 6}, {1, 6, 5, 0}, {5, 6, 0, 0}};
+        int[][] slabs = {{1, 9, 8, 0}, {8, 1, 0, 8}, {1, 8, 7, 0}, {7, 1, 0, 7}, {1, 7, 6, 0}, {6, 1, 0, 6},
+                {1, 6, 5, 0}, {5, 6, 0, 0}};
         PlaceRectangles nest = Given.bin(9, 9, 1);
         for (int[] slab : slabs) {
             nest.box(slab[0], slab[1], 1);
@@ -221,7 +226,8 @@ final class TreeSentences {
         s.due("no cut can be", x.tree(), 0);
         x.lift(0);
         s.due("without one of them", x.tree(), 5);
-        s.due("before a cut on axis 2", Given.laid(WHEEL[0], WHEEL[1], WHEEL[2], WHEEL[3], Given.of(1, 1, 1, 0, 0, 9)).tree(), 0);
+        s.due("before a cut on axis 2", Given.laid(WHEEL[0], WHEEL[1], WHEEL[2], WHEEL[3],
+                Given.of(1, 1, 1, 0, 0, 9)).tree(), 0);
         PlaceRectangles y = Given.laid(Given.of(2, 1, 1, 1, 0, 0), Given.of(1, 2, 1, 3, 0, 0),
                 Given.of(2, 1, 1, 2, 2, 0), Given.of(1, 2, 1, 1, 1, 0), Given.of(1, 3, 1, 0, 0, 0));
         s.due("behind a cut on axis 0", y.tree(), 0);
@@ -260,7 +266,8 @@ final class TreeSentences {
     private static void promise18(Sentences s) {
         s.sentence("Promise 18", "what = 0 its axis, NONE of a leaf; 1 the cut's place, or the leaf's box;"
                 + " 2, 3 the first node of its first, second tree (NONE of a leaf).");
-        PlaceRectangles x = Given.laid(Given.of(1, 1, 1, 0, 0, 0), Given.of(1, 1, 1, 4, 0, 0), Given.of(1, 1, 1, 0, 0, 3),
+        PlaceRectangles x = Given.laid(Given.of(1, 1, 1, 0, 0, 0), Given.of(1, 1, 1, 4, 0, 0),
+                Given.of(1, 1, 1, 0, 0, 3),
                 Given.of(1, 1, 1, 4, 7, 0));
         nodeIs(s, x, 0, 0, 1, 1, 4);
         nodeIs(s, x, 1, 2, 1, 2, 3);
