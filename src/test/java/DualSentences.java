@@ -1,3 +1,5 @@
+import java.util.Random;
+
 /** The words about dual functions, and promises 19 to 21. */
 final class DualSentences {
     private static final int BAD = Given.BAD, NONE = Given.NONE;
@@ -18,6 +20,7 @@ final class DualSentences {
         theProof(s);
         theProofIsAbove(s);
         theProofByAxes(s);
+        theProofOfMany(s);
         reason(s);
         reasonOfOne(s);
         promise19(s);
@@ -298,6 +301,57 @@ final class DualSentences {
             boolean above = x.need(a, b, c, 0) > x.need(a, b, c, 1);
             s.due("NEED is above HAS by " + a + ", " + b + ", " + c, above ? 1 : 0, k == last ? 1 : 0);
         }
+    }
+
+    /** Bins and boxes of many sizes, whose proof is compared with all threes, one after the other, by need(). */
+    private static void theProofOfMany(Sentences s) {
+        s.sentence("Terms", "THE PROOF are the first three,");
+        int beyondTheFirst = 0;
+        for (int k = 0; k < 400; k++) {
+            int[] first = firstByNeed(k);
+            PlaceRectangles x = someBoxes(k);
+            for (int axis = 0; axis < 3; axis++) {
+                s.due("of bin and boxes " + k + ": proof(" + axis + ")", x.proof(axis), first[axis]);
+            }
+            beyondTheFirst += first[0] + first[1] + first[2] > 0 ? 1 : 0;
+        }
+        s.isTrue("many are beyond the first three functions", beyondTheFirst > 40);
+    }
+
+    /** Boxes of a half, a third, a fourth or all of the bin, or one more, as long as their volume goes in. */
+    private static PlaceRectangles someBoxes(int k) {
+        Random random = new Random(k);
+        int[] bin = {1 + random.nextInt(12), 1 + random.nextInt(12), 1 + random.nextInt(4)};
+        PlaceRectangles x = Given.bin(bin[0], bin[1], bin[2]);
+        int left = bin[0] * bin[1] * bin[2];
+        for (int box = 0; box < 8; box++) {
+            int[] sides = new int[3];
+            for (int axis = 0; axis < 3; axis++) {
+                sides[axis] = Math.max(1, Math.min(bin[axis], bin[axis] / (1 + random.nextInt(4)) + random.nextInt(2)));
+            }
+            if (sides[0] * sides[1] * sides[2] <= left) {
+                left -= sides[0] * sides[1] * sides[2];
+                x.turns(x.box(sides[0], sides[1], sides[2]), k % 2 == 0 ? 1 : 1 + random.nextInt(63));
+            }
+        }
+        return x;
+    }
+
+    private static int[] firstByNeed(int k) {
+        PlaceRectangles x = someBoxes(k);
+        int[] functions = new int[3];
+        for (int axis = 0; axis < 3; axis++) {
+            functions[axis] = Given.length(x, axis) / 2 * 2 + 1;
+        }
+        for (int n = 0; n < functions[0] * functions[1] * functions[2]; n++) {
+            // An object is good for 512 calls.
+            x = n % 200 == 0 ? someBoxes(k) : x;
+            int a = n / functions[2] / functions[1], b = n / functions[2] % functions[1], c = n % functions[2];
+            if (x.need(a, b, c, 0) > x.need(a, b, c, 1)) {
+                return Given.of(a, b, c);
+            }
+        }
+        return Given.of(NONE, NONE, NONE);
     }
 
     private static void reason(Sentences s) {
